@@ -171,7 +171,8 @@ public final class WishRoutes {
         int number = notices.size();
         Notice sent = new Notice(number, desk, new int[] {f0, f1, f2, f3});
         notices.add(sent);
-        bring(sent, desk, NONE);
+        letHear(sent, desk);
+        passOn(sent, desk, NONE);
         return number;
     }
 
@@ -185,7 +186,7 @@ public final class WishRoutes {
         }
         int delivered = 0;
         while (delivered < n && delivered < MAX_DELIVERIES && lane.size > 0) {
-            deliverFirst(lane, u, v);
+            deliverFirst(u, v);
             delivered++;
         }
         return delivered;
@@ -195,9 +196,7 @@ public final class WishRoutes {
         int delivered = 0;
         int place = firstBusyPlace();
         while (place != NONE && delivered < MAX_DELIVERIES) {
-            int u = place / MAX_DESKS;
-            int v = place % MAX_DESKS;
-            deliverFirst(lanes[place], u, v);
+            deliverFirst(place / MAX_DESKS, place % MAX_DESKS);
             delivered++;
             place = firstBusyPlace();
         }
@@ -432,8 +431,9 @@ public final class WishRoutes {
         return NONE;
     }
 
-    private void deliverFirst(Lane lane, int u, int v) {
-        int item = lane.takeFirst();
+    private void deliverFirst(int u, int v) {
+        Lane lane = laneFrom(u, v);
+        int item = lane == null ? NONE : lane.takeFirst();
         if (item == TELL) {
             tellsDelivered++;
             tellNeighbours(v);
@@ -445,29 +445,34 @@ public final class WishRoutes {
         }
         come.messages--;
         if (!inMask(come.seenAt, v)) {
-            bring(come, v, u);
-        }
-    }
-
-    private void bring(Notice come, int desk, int from) {
-        come.seenAt |= 1 << desk;
-        letHear(come, desk);
-        for (int v = 0; v < desks; v++) {
-            Lane there = laneFrom(desk, v);
-            Lane back = laneFrom(v, desk);
-            if (v != from && there != null && back != null && isInTable(come, back.table)) {
-                passOn(come, there, reach(v, desk));
-            }
+            letHear(come, v);
+            passOn(come, v, u);
         }
     }
 
     private void letHear(Notice come, int desk) {
+        come.seenAt |= 1 << desk;
         for (int w = 0; w < wishes.size(); w++) {
             Wish wish = wishes.get(w);
             if (wish.alive && wish.owner.desk == desk && !inMask(come.heardBy, wish.reader)
                     && wish.isMetBy(come.fields)) {
                 come.heardBy |= 1 << wish.reader;
                 wish.owner.addHeard(come.number);
+            }
+        }
+    }
+
+    private void passOn(Notice come, int desk, int from) {
+        for (int v = 0; v < desks; v++) {
+            Lane there = laneFrom(desk, v);
+            Lane back = laneFrom(v, desk);
+            if (v != from && there != null && back != null && isInTable(come, back.table)) {
+                there.putNotice(come.number);
+                come.messages++;
+                passedOn++;
+                if (!isWantedAt(come, reach(v, desk))) {
+                    needless++;
+                }
             }
         }
     }
@@ -479,15 +484,6 @@ public final class WishRoutes {
             }
         }
         return false;
-    }
-
-    private void passOn(Notice come, Lane lane, int behind) {
-        lane.putNotice(come.number);
-        come.messages++;
-        passedOn++;
-        if (!isWantedAt(come, behind)) {
-            needless++;
-        }
     }
 
     private boolean isWantedAt(Notice come, int deskMask) {
@@ -731,10 +727,9 @@ public final class WishRoutes {
 
         /** A wish that no notice can fit is covered by every wish, whatever its other fields ask. */
         boolean takesIn(Wish other) {
-            return other.isNeverMet() || isWideInEachField(other);
-        }
-
-        private boolean isWideInEachField(Wish other) {
+            if (other.isNeverMet()) {
+                return true;
+            }
             for (int f = 0; f < FIELDS; f++) {
                 if (!tests[f].isAsWideAs(other.tests[f])) {
                     return false;

@@ -168,12 +168,21 @@ final class DesksTest {
         Check.due("told(2, 1)", Rows.told(x, 2, 1), "");
         Check.due("told(1, 2)", Rows.told(x, 1, 2), "");
         Check.due("table(1, 2)", Rows.table(x, 1, 2), "");
+        Check.due("table(2, 1) of no wish yet", Rows.table(x, 2, 1), "");
         Check.due("messages", x.count(5), 0);
         x.link(0, 1);
         Check.due("0 to 1", Rows.messages(x, 0, 1), "-2");
         Check.due("table(1, 0)", Rows.table(x, 1, 0), "");
         Check.due("all()", x.all(), 2);
         Check.due("table(2, 1)", Rows.table(x, 2, 1), "0");
+        x.send(2, 1, 1, 1, 1);
+        x.off(0);
+        x.cut(2, 1);
+        x.cut(0, 1);
+        x.link(2, 1);
+        x.link(0, 1);
+        Check.due("messages lost with the cuts", x.count(5), 0);
+        Check.due("all() after the cuts", x.all(), 0);
     }
 
     private static void readersAreNumberedUpToTwentyFour() {

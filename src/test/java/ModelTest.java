@@ -99,8 +99,9 @@ final class ModelTest {
 
     private void setTest(int field) {
         int kind = random.nextInt(30) == 0 ? random.nextInt(7) - 2 : random.nextInt(3);
-        int a = value();
-        int b = random.nextInt(8) == 0 ? value() : Math.max(a, value());
+        boolean whole = random.nextInt(15) == 0;
+        int a = whole ? Integer.MIN_VALUE : value();
+        int b = whole ? Integer.MAX_VALUE : random.nextInt(8) == 0 ? value() : Math.max(a, value());
         answers("test", asInt(real.test(field, kind, a, b)), asInt(model.test(field, kind, a, b)), field, kind, a, b);
     }
 

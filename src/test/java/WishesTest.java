@@ -253,6 +253,18 @@ final class WishesTest {
         coversOneWay(x, 0, 2);
         coversSame(x, 1, 2);
         Check.due("fits none", x.fits(1, 0, 0, 0, 0), 0);
+        for (int field = 0; field < 4; field++) {
+            WishRoutes y = oneReader();
+            y.test(field, 2, LEAST, MOST);
+            y.wish(0);
+            y.test((field + 1) % 4, 1, 1, 2);
+            y.wish(0);
+            y.test(field, 2, LEAST, MOST - 1);
+            y.wish(0);
+            Check.due("covers none of " + field, y.covers(1, 0), 1);
+            Check.due("is not covered by none of " + field, y.covers(0, 1), 0);
+            Check.due("one number of " + field + " is not none", y.covers(1, 2), 0);
+        }
     }
 
     private static void coversAndFitsOfNoWish() {
