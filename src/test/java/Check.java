@@ -2,15 +2,22 @@
 final class Check {
     private static int wrong = 0;
     private static int asked = 0;
+    private static int sentences = 0;
+    private static String sentence = "";
 
     private Check() {
+    }
+
+    /** The place and the words of the document to which the checks that follow hold. */
+    static void sentence(String place, String words) {
+        sentences++;
+        sentence = "[" + place + ": " + words + "] ";
     }
 
     static void due(String call, long got, long want) {
         asked++;
         if (got != want) {
-            wrong++;
-            System.out.println(call + " answered " + got + ", due is " + want);
+            fail(call + " answered " + got + ", due is " + want);
         }
     }
 
@@ -21,13 +28,18 @@ final class Check {
     static void due(String what, String got, String want) {
         asked++;
         if (!got.equals(want)) {
-            wrong++;
-            System.out.println(what + ":\n  got " + got + "\n  due " + want);
+            fail(what + ":\n  got " + got + "\n  due " + want);
         }
     }
 
+    static void fail(String what) {
+        wrong++;
+        System.out.println(sentence + what);
+    }
+
     static void end() {
-        System.out.println(wrong == 0 ? asked + " answers are as due" : wrong + " answers are not as due");
+        String of = sentences == 0 ? "" : " of " + sentences + " sentences";
+        System.out.println(wrong == 0 ? asked + " answers" + of + " are as due" : wrong + " answers are not as due");
         if (wrong != 0) {
             System.exit(1);
         }

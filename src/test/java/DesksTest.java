@@ -18,7 +18,7 @@ final class DesksTest {
     }
 
     private static void newObjectIsEmpty() {
-        WishRoutes x = new WishRoutes();
+        Routes x = new Routes();
         for (int what = 0; what <= 10; what++) {
             Check.due("new: count(" + what + ")", x.count(what), 0);
         }
@@ -42,7 +42,7 @@ final class DesksTest {
     }
 
     private static void newReadingIsAllAny() {
-        WishRoutes x = new WishRoutes();
+        Routes x = new Routes();
         x.desk();
         x.reader(0);
         Check.due("new reading: wish(0)", x.wish(0), 0);
@@ -52,7 +52,7 @@ final class DesksTest {
     }
 
     private static void desksAreNumberedUpToTwelve() {
-        WishRoutes x = new WishRoutes();
+        Routes x = new Routes();
         for (int d = 0; d < 12; d++) {
             Check.due("desk()", x.desk(), d);
         }
@@ -66,7 +66,7 @@ final class DesksTest {
     }
 
     private static void linksKeepOneWayBetweenTwo() {
-        WishRoutes x = desks(5);
+        Routes x = Worlds.desks(5);
         Check.due("link(0, 1)", x.link(0, 1), 0);
         Check.due("link(2, 1)", x.link(2, 1), 0);
         Check.due("link(3, 4)", x.link(3, 4), 0);
@@ -87,7 +87,7 @@ final class DesksTest {
     }
 
     private static void linkTellsBothWays() {
-        WishRoutes x = desks(2);
+        Routes x = Worlds.desks(2);
         x.reader(0);
         x.reader(1);
         x.wish(0);
@@ -105,7 +105,7 @@ final class DesksTest {
     }
 
     private static void cutLosesMessagesTablesAndTold() {
-        WishRoutes x = desks(3);
+        Routes x = Worlds.desks(3);
         x.link(0, 1);
         x.link(1, 2);
         x.reader(2);
@@ -139,7 +139,7 @@ final class DesksTest {
     }
 
     private static void cutTellsTheOtherNeighbours() {
-        WishRoutes x = desks(4);
+        Routes x = Worlds.desks(4);
         x.link(0, 1);
         x.link(1, 2);
         x.link(1, 3);
@@ -158,7 +158,7 @@ final class DesksTest {
     }
 
     private static void linkAfterCutStartsAnew() {
-        WishRoutes x = desks(3);
+        Routes x = Worlds.desks(3);
         x.reader(0);
         x.wish(0);
         x.link(0, 1);
@@ -186,7 +186,7 @@ final class DesksTest {
     }
 
     private static void readersAreNumberedUpToTwentyFour() {
-        WishRoutes x = desks(2);
+        Routes x = Worlds.desks(2);
         Check.due("reader(2)", x.reader(2), -2);
         Check.due("reader(-1)", x.reader(-1), -2);
         for (int r = 0; r < 24; r++) {
@@ -201,7 +201,7 @@ final class DesksTest {
     }
 
     private static void moveTakesWishesAlong() {
-        WishRoutes x = desks(3);
+        Routes x = Worlds.desks(3);
         x.link(0, 1);
         x.link(1, 2);
         x.reader(0);
@@ -222,13 +222,5 @@ final class DesksTest {
         Check.due("move(0, -1)", x.move(0, -1), -2);
         Check.due("off tells at the new desk", x.off(0), 0);
         Check.due("told(2, 1) after off", Rows.told(x, 2, 1), "");
-    }
-
-    private static WishRoutes desks(int n) {
-        WishRoutes x = new WishRoutes();
-        for (int d = 0; d < n; d++) {
-            x.desk();
-        }
-        return x;
     }
 }

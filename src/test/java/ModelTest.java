@@ -6,15 +6,19 @@ final class ModelTest {
     private static final int CALLS = 512;
     private static final int[] EDGES = {
         Integer.MIN_VALUE, Integer.MIN_VALUE + 1, -1, 0, Integer.MAX_VALUE - 1, Integer.MAX_VALUE};
-    /** How often each of the 21 methods is called, one row a kind of run: even, wishful, busy, restless. */
+    /** How often each of the 21 methods is called, one row a kind of run: even, wishful, busy, restless, roundabout. */
     private static final int[][] WEIGHTS = {
         {9, 12, 5, 9, 8, 20, 20, 25, 12, 30, 25, 3, 10, 6, 15, 15, 15, 10, 8, 10, 15},
         {6, 10, 1, 8, 2, 70, 40, 90, 10, 10, 15, 1, 12, 4, 20, 20, 4, 2, 1, 6, 6},
         {8, 12, 1, 8, 3, 10, 10, 15, 4, 90, 20, 1, 2, 2, 6, 6, 15, 12, 12, 2, 15},
-        {9, 30, 22, 9, 25, 15, 10, 20, 8, 40, 30, 1, 2, 2, 10, 10, 10, 10, 6, 2, 15}};
+        {9, 30, 22, 9, 25, 15, 10, 20, 8, 40, 30, 1, 2, 2, 10, 10, 10, 10, 6, 2, 15},
+        {0, 90, 20, 6, 8, 1, 1, 12, 2, 50, 80, 0, 0, 0, 3, 3, 8, 25, 6, 0, 12}};
+    /** With so few desks, cuts and links lead a notice back to where it was. */
+    private static final int ROUNDABOUT = 4;
 
     private final Random random;
     private final int[] weights;
+    private final boolean roundabout;
     private final int spread;
     private final WishRoutes real = new WishRoutes();
     private final PlainModel model = new PlainModel();
@@ -22,9 +26,12 @@ final class ModelTest {
     private int got = 0;
     private int want = 0;
 
-    private ModelTest(long seed) {
-        random = new Random(seed);
-        weights = WEIGHTS[random.nextInt(WEIGHTS.length)];
+    /** The kind is not drawn: the first numbers that Random draws of small seeds are nearly alike. */
+    private ModelTest(int run) {
+        random = new Random(run);
+        int kind = run % WEIGHTS.length;
+        weights = WEIGHTS[kind];
+        roundabout = kind == ROUNDABOUT;
         spread = 2 + random.nextInt(9);
     }
 
@@ -46,7 +53,7 @@ final class ModelTest {
     }
 
     private void step(int i) {
-        if (i < 8 && random.nextInt(4) > 0) {
+        if (roundabout ? i < 5 : i < 8 && random.nextInt(4) > 0) {
             answers("desk", real.desk(), model.desk());
             return;
         }
@@ -81,7 +88,10 @@ final class ModelTest {
         switch (method) {
             case 0 -> answers("desk", real.desk(), model.desk());
             case 1 -> answers("link", real.link(u, v), model.link(u, v), u, v);
-            case 2 -> answers("cut", real.cut(u, v), model.cut(u, v), u, v);
+            case 2 -> {
+                Way way = way(false);
+                answers("cut", real.cut(way.u(), way.v()), model.cut(way.u(), way.v()), way.u(), way.v());
+            }
             case 3 -> answers("reader", real.reader(u), model.reader(u), u);
             case 4 -> answers("move", real.move(r, u), model.move(r, u), r, u);
             case 5 -> setTest(field);
@@ -117,7 +127,9 @@ final class ModelTest {
             case 9 -> answers("send", real.send(u, a, b, c, d), model.send(u, a, b, c, d), u, a, b, c, d);
             case 10 -> {
                 int n = random.nextInt(12) == 0 ? EDGES[random.nextInt(EDGES.length)] : random.nextInt(4);
-                answers("deliver", real.deliver(u, v, n), model.deliver(u, v, n), u, v, n);
+                Way way = way(true);
+                answers("deliver", real.deliver(way.u(), way.v(), n), model.deliver(way.u(), way.v(), n),
+                    way.u(), way.v(), n);
             }
             case 11 -> answers("all", real.all(), model.all());
             case 12 -> {
@@ -167,6 +179,21 @@ final class ModelTest {
 
     private int desk() {
         return number(model.count(0));
+    }
+
+    private record Way(int u, int v) {
+    }
+
+    /** Any two desks; in a roundabout run mostly two that are linked, with a message between them if busy. */
+    private Way way(boolean busy) {
+        Way way = new Way(desk(), desk());
+        for (int tries = 0; roundabout && tries < 12; tries++) {
+            if (busy ? model.message(way.u(), way.v(), 0) != -1 : model.deliver(way.u(), way.v(), 0) == 0) {
+                return way;
+            }
+            way = new Way(desk(), desk());
+        }
+        return way;
     }
 
     /** Mostly one of those that there are, at times one beyond or at the edge of int. */

@@ -30,14 +30,14 @@ final class RoutesTest {
     }
 
     private static void toldIsWhatNoOtherCovers() {
-        WishRoutes x = line(2);
+        Routes x = Worlds.line(2);
         x.reader(0);
         x.reader(0);
-        between(x, 0, 1, 5);
-        between(x, 1, 4, 9);
-        between(x, 0, 2, 3);
+        Worlds.between(x, 0, 1, 5);
+        Worlds.between(x, 1, 4, 9);
+        Worlds.between(x, 0, 2, 3);
         Check.due("told", Rows.told(x, 0, 1), "0 1");
-        between(x, 1, 0, 6);
+        Worlds.between(x, 1, 0, 6);
         Check.due("told with a wider one", Rows.told(x, 0, 1), "1 3");
         x.wish(0);
         Check.due("told with ANY", Rows.told(x, 0, 1), "4");
@@ -47,15 +47,15 @@ final class RoutesTest {
     }
 
     private static void ofSameWishesTheLeastIsTold() {
-        WishRoutes x = line(2);
+        Routes x = Worlds.line(2);
         x.reader(0);
-        between(x, 0, 3, 5);
+        Worlds.between(x, 0, 3, 5);
         x.among(0, 4);
         x.among(0, 3);
         x.among(0, 5);
         x.wish(0);
-        between(x, 0, 3, 5);
-        between(x, 0, 8, 8);
+        Worlds.between(x, 0, 3, 5);
+        Worlds.between(x, 0, 8, 8);
         Check.due("told", Rows.told(x, 0, 1), "0 3");
         x.off(0);
         Check.due("told without the least", Rows.told(x, 0, 1), "1 3");
@@ -64,12 +64,12 @@ final class RoutesTest {
     }
 
     private static void coveredWishesAreToldOnceUncovered() {
-        WishRoutes x = line(3);
+        Routes x = Worlds.line(3);
         x.reader(0);
         x.reader(1);
-        between(x, 0, 0, 9);
+        Worlds.between(x, 0, 0, 9);
         x.all();
-        between(x, 1, 2, 3);
+        Worlds.between(x, 1, 2, 3);
         Check.due("told(1, 2)", Rows.told(x, 1, 2), "0");
         Check.due("told(1, 0)", Rows.told(x, 1, 0), "1");
         x.off(0);
@@ -80,7 +80,7 @@ final class RoutesTest {
     }
 
     private static void nothingIsToldBackToWhereItCameFrom() {
-        WishRoutes x = line(3);
+        Routes x = Worlds.line(3);
         x.reader(0);
         x.wish(0);
         Check.due("all()", x.all(), 2);
@@ -91,30 +91,30 @@ final class RoutesTest {
     }
 
     private static void aTellTakesTheLastTellsPlace() {
-        WishRoutes x = line(2);
+        Routes x = Worlds.line(2);
         x.reader(0);
-        between(x, 0, 1, 1);
-        between(x, 0, 2, 2);
-        between(x, 0, 3, 3);
+        Worlds.between(x, 0, 1, 1);
+        Worlds.between(x, 0, 2, 2);
+        Worlds.between(x, 0, 3, 3);
         Check.due("messages", Rows.messages(x, 0, 1), "-2");
         Check.due("deliver", x.deliver(0, 1, 9), 1);
         Check.due("table", Rows.table(x, 1, 0), "0 1 2");
         Check.due("tells delivered", x.count(9), 1);
-        between(x, 0, 4, 4);
+        Worlds.between(x, 0, 4, 4);
         Check.due("messages after delivery", Rows.messages(x, 0, 1), "-2");
         Check.due("table till delivered", Rows.table(x, 1, 0), "0 1 2");
     }
 
     private static void aTellComesBehindANotice() {
-        WishRoutes x = line(2);
+        Routes x = Worlds.line(2);
         x.reader(0);
         x.reader(1);
         x.wish(1);
         x.all();
-        between(x, 0, 1, 1);
+        Worlds.between(x, 0, 1, 1);
         x.send(0, 7, 7, 7, 7);
-        between(x, 0, 2, 2);
-        between(x, 0, 3, 3);
+        Worlds.between(x, 0, 2, 2);
+        Worlds.between(x, 0, 3, 3);
         Check.due("messages", Rows.messages(x, 0, 1), "-2 0 -2");
         Check.due("messages in all", x.count(5), 3);
         Check.due("tells", x.count(6), 2);
@@ -129,7 +129,7 @@ final class RoutesTest {
     }
 
     private static void aTellMayTakeBackWhatWasNotDelivered() {
-        WishRoutes x = line(2);
+        Routes x = Worlds.line(2);
         x.reader(0);
         x.wish(0);
         x.off(0);
@@ -141,7 +141,7 @@ final class RoutesTest {
     }
 
     private static void aWishInTwoTablesIsToldOnce() {
-        WishRoutes x = new WishRoutes();
+        Routes x = new Routes();
         for (int d = 0; d < 4; d++) {
             x.desk();
         }
@@ -163,13 +163,13 @@ final class RoutesTest {
     }
 
     private static void tablesKeepWishesThatAreOff() {
-        WishRoutes x = line(3);
+        Routes x = Worlds.line(3);
         x.reader(0);
         x.reader(1);
-        between(x, 0, 0, 9);
+        Worlds.between(x, 0, 0, 9);
         x.all();
         x.off(0);
-        between(x, 1, 2, 3);
+        Worlds.between(x, 1, 2, 3);
         Check.due("told(1, 2) while one OFF covers", Rows.told(x, 1, 2), "0");
         x.send(2, 5, 0, 0, 0);
         Check.due("passed on for one OFF", Rows.messages(x, 2, 1), "0");
@@ -177,7 +177,7 @@ final class RoutesTest {
     }
 
     private static void sendHearsAndPassesOn() {
-        WishRoutes x = new WishRoutes();
+        Routes x = new Routes();
         for (int d = 0; d < 5; d++) {
             x.desk();
         }
@@ -186,10 +186,10 @@ final class RoutesTest {
             x.reader(d);
         }
         x.reader(0);
-        between(x, 0, 1, 5);
-        between(x, 1, 6, 9);
-        between(x, 2, 3, 7);
-        between(x, 4, 4, 4);
+        Worlds.between(x, 0, 1, 5);
+        Worlds.between(x, 1, 6, 9);
+        Worlds.between(x, 2, 3, 7);
+        Worlds.between(x, 4, 4, 4);
         x.all();
         Check.due("send(1)", x.send(1, 4, 0, 0, 0), 0);
         Check.due("heard where it was sent", Rows.heard(x, 0), "0");
@@ -213,14 +213,14 @@ final class RoutesTest {
     }
 
     private static void sendStopsAtSixtyUnderWay() {
-        WishRoutes x = line(2);
+        Routes x = Worlds.line(2);
         x.reader(1);
         x.reader(0);
-        between(x, 0, 1, 1);
+        Worlds.between(x, 0, 1, 1);
         x.all();
         for (int k = 0; k < 60; k++) {
             Check.due("send()", x.send(0, 1, k, 0, 0), k);
-            between(x, 1, 10 + k, 10 + k);
+            Worlds.between(x, 1, 10 + k, 10 + k);
         }
         Check.due("under way", x.count(4), 60);
         Check.due("messages", x.count(5), 120);
@@ -234,7 +234,7 @@ final class RoutesTest {
         x.deliver(0, 1, 1);
         Check.due("send after one was delivered", x.send(0, 1, 0, 0, 0), 60);
         Check.due("send beyond 60 again", x.send(0, 1, 0, 0, 0), -8);
-        between(x, 1, 5, 5);
+        Worlds.between(x, 1, 5, 5);
         Check.due("messages in order", Rows.messages(x, 0, 1).startsWith("-2 1 -2 2 "), true);
         Check.due("all()", x.all(), 121);
         Check.due("heard last", x.heard(0, 60), 60);
@@ -243,7 +243,7 @@ final class RoutesTest {
     }
 
     private static void noticesComeInOrder() {
-        WishRoutes x = line(3);
+        Routes x = Worlds.line(3);
         x.reader(2);
         x.wish(0);
         x.all();
@@ -260,7 +260,7 @@ final class RoutesTest {
     }
 
     private static void noticeThatWasThereIsDropped() {
-        WishRoutes x = line(3);
+        Routes x = Worlds.line(3);
         x.reader(2);
         x.reader(0);
         x.wish(0);
@@ -286,7 +286,7 @@ final class RoutesTest {
     }
 
     private static void noReaderHearsTwice() {
-        WishRoutes x = line(2);
+        Routes x = Worlds.line(2);
         x.reader(0);
         x.reader(1);
         x.wish(0);
@@ -302,7 +302,7 @@ final class RoutesTest {
     }
 
     private static void deliverCountsWhatItDelivers() {
-        WishRoutes x = line(2);
+        Routes x = Worlds.line(2);
         x.reader(1);
         x.wish(0);
         Check.due("deliver of none", x.deliver(1, 0, 0), 0);
@@ -320,7 +320,7 @@ final class RoutesTest {
     }
 
     private static void deliverRefuses() {
-        WishRoutes x = line(3);
+        Routes x = Worlds.line(3);
         Check.due("deliver(0, 3, 1)", x.deliver(0, 3, 1), -2);
         Check.due("deliver(-1, 0, 1)", x.deliver(-1, 0, 1), -2);
         Check.due("deliver(0, 1, -1)", x.deliver(0, 1, -1), -2);
@@ -333,7 +333,7 @@ final class RoutesTest {
 
     /** Whether the notice or the tell comes to the desk in the middle first is told by who hears. */
     private static void allTakesTheLeastFirst() {
-        WishRoutes x = wishAtTheMiddle();
+        Routes x = wishAtTheMiddle();
         x.reader(2);
         x.wish(1);
         x.send(0, 5, 5, 5, 5);
@@ -341,7 +341,7 @@ final class RoutesTest {
         Check.due("heard in the middle", Rows.heard(x, 0), "0");
         Check.due("not passed on before the tell", Rows.heard(x, 1), "");
 
-        WishRoutes y = wishAtTheMiddle();
+        Routes y = wishAtTheMiddle();
         y.reader(0);
         y.wish(1);
         y.send(2, 5, 5, 5, 5);
@@ -351,8 +351,8 @@ final class RoutesTest {
         Check.due("all() with none", y.all(), 0);
     }
 
-    private static WishRoutes wishAtTheMiddle() {
-        WishRoutes x = line(3);
+    private static Routes wishAtTheMiddle() {
+        Routes x = Worlds.line(3);
         x.reader(1);
         x.wish(0);
         x.all();
@@ -360,9 +360,9 @@ final class RoutesTest {
     }
 
     private static void needlessIsCountedThen() {
-        WishRoutes x = line(2);
+        Routes x = Worlds.line(2);
         x.reader(1);
-        between(x, 0, 1, 5);
+        Worlds.between(x, 0, 1, 5);
         x.all();
         x.send(0, 3, 0, 0, 0);
         x.off(0);
@@ -381,7 +381,7 @@ final class RoutesTest {
     }
 
     private static void needlessLooksBehindTheNeighbour() {
-        WishRoutes x = line(4);
+        Routes x = Worlds.line(4);
         x.reader(3);
         x.reader(0);
         x.wish(0);
@@ -402,7 +402,7 @@ final class RoutesTest {
     }
 
     private static void noticeTellsFieldsDeskAndMessages() {
-        WishRoutes x = line(3);
+        Routes x = Worlds.line(3);
         x.reader(0);
         x.reader(2);
         x.wish(0);
@@ -428,10 +428,10 @@ final class RoutesTest {
     }
 
     private static void rowsEndWithNone() {
-        WishRoutes x = line(2);
+        Routes x = Worlds.line(2);
         x.reader(0);
-        between(x, 0, 1, 1);
-        between(x, 0, 3, 3);
+        Worlds.between(x, 0, 1, 1);
+        Worlds.between(x, 0, 3, 3);
         x.all();
         x.send(1, 1, 0, 0, 0);
         int[][] places = {{-1, 0, 0}, {0, -1, 0}, {2, 0, 0}, {0, 2, 0}, {0, 0, 0}, {1, 1, 0}};
@@ -455,7 +455,7 @@ final class RoutesTest {
     }
 
     private static void countAnswersNoneBeyond() {
-        WishRoutes x = line(3);
+        Routes x = Worlds.line(3);
         x.reader(0);
         x.wish(0);
         x.off(0);
@@ -470,21 +470,5 @@ final class RoutesTest {
         for (int what : new int[] {-1, 11, Integer.MIN_VALUE, Integer.MAX_VALUE}) {
             Check.due("count(" + what + ")", x.count(what), -1);
         }
-    }
-
-    private static WishRoutes line(int desks) {
-        WishRoutes x = new WishRoutes();
-        for (int d = 0; d < desks; d++) {
-            x.desk();
-            if (d > 0) {
-                x.link(d - 1, d);
-            }
-        }
-        return x;
-    }
-
-    private static void between(WishRoutes x, int reader, int a, int b) {
-        x.test(0, 1, a, b);
-        x.wish(reader);
     }
 }

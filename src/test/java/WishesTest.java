@@ -27,27 +27,27 @@ final class WishesTest {
     }
 
     private static void testSetsTheReading() {
-        WishRoutes x = oneReader();
+        Routes x = Worlds.oneReader();
         Check.due("test BETWEEN", x.test(1, 1, -3, 8), true);
         Check.due("test NOT", x.test(2, 2, 4, 4), true);
         Check.due("test ANY with a above b", x.test(3, 0, 5, 1), true);
         x.wish(0);
-        Check.due("kinds", kinds(x, 0), "0 1 2 0");
-        Check.due("numbers of 1", numbers(x, 0, 1), "-3 8 0 0");
-        Check.due("numbers of 2", numbers(x, 0, 2), "4 4 0 0");
-        Check.due("numbers of ANY", numbers(x, 0, 3), "0 0 0 0");
+        Check.due("kinds", Rows.kinds(x, 0), "0 1 2 0");
+        Check.due("numbers of 1", Rows.numbers(x, 0, 1), "-3 8 0 0");
+        Check.due("numbers of 2", Rows.numbers(x, 0, 2), "4 4 0 0");
+        Check.due("numbers of ANY", Rows.numbers(x, 0, 3), "0 0 0 0");
         x.test(0, 1, 1, 2);
         x.test(0, 2, 3, 4);
         x.test(1, 1, 1, 2);
         x.test(1, 0, 3, 4);
         x.wish(0);
-        Check.due("the latest test stays", kinds(x, 1), "2 0 0 0");
-        Check.due("its numbers", numbers(x, 1, 0), "3 4 0 0");
-        Check.due("numbers of ANY after BETWEEN", numbers(x, 1, 1), "0 0 0 0");
+        Check.due("the latest test stays", Rows.kinds(x, 1), "2 0 0 0");
+        Check.due("its numbers", Rows.numbers(x, 1, 0), "3 4 0 0");
+        Check.due("numbers of ANY after BETWEEN", Rows.numbers(x, 1, 1), "0 0 0 0");
     }
 
     private static void testRefuses() {
-        WishRoutes x = oneReader();
+        Routes x = Worlds.oneReader();
         x.test(0, 1, 1, 9);
         Check.due("field -1", x.test(-1, 1, 1, 2), false);
         Check.due("field 4", x.test(4, 1, 1, 2), false);
@@ -56,12 +56,12 @@ final class WishesTest {
         Check.due("BETWEEN with a above b", x.test(0, 1, 3, 2), false);
         Check.due("NOT with a above b", x.test(0, 2, MOST, LEAST), false);
         x.wish(0);
-        Check.due("kinds after refusals", kinds(x, 0), "1 0 0 0");
-        Check.due("numbers after refusals", numbers(x, 0, 0), "1 9 0 0");
+        Check.due("kinds after refusals", Rows.kinds(x, 0), "1 0 0 0");
+        Check.due("numbers after refusals", Rows.numbers(x, 0, 0), "1 9 0 0");
     }
 
     private static void amongGathersNumbers() {
-        WishRoutes x = oneReader();
+        Routes x = Worlds.oneReader();
         Check.due("among 7", x.among(2, 7), true);
         Check.due("among -7", x.among(2, -7), true);
         Check.due("among 7 again", x.among(2, 7), false);
@@ -72,16 +72,16 @@ final class WishesTest {
         Check.due("among field -1", x.among(-1, 0), false);
         Check.due("among field 4", x.among(4, 0), false);
         x.wish(0);
-        Check.due("kinds", kinds(x, 0), "0 0 3 0");
-        Check.due("numbers", numbers(x, 0, 2), "-7 0 7 " + MOST);
+        Check.due("kinds", Rows.kinds(x, 0), "0 0 3 0");
+        Check.due("numbers", Rows.numbers(x, 0, 2), "-7 0 7 " + MOST);
         x.among(0, 5);
         x.among(0, 2);
         x.wish(0);
-        Check.due("two numbers", numbers(x, 1, 0), "2 5 0 0");
+        Check.due("two numbers", Rows.numbers(x, 1, 0), "2 5 0 0");
     }
 
     private static void amongAfterOtherKinds() {
-        WishRoutes x = oneReader();
+        Routes x = Worlds.oneReader();
         x.test(0, 1, 5, 9);
         Check.due("among after BETWEEN, a number of its own", x.among(0, 5), true);
         x.among(1, 1);
@@ -91,13 +91,13 @@ final class WishesTest {
         x.among(2, 8);
         x.test(2, 0, 0, 0);
         x.wish(0);
-        Check.due("kinds", kinds(x, 0), "3 3 0 0");
-        Check.due("BETWEEN is gone", numbers(x, 0, 0), "5 0 0 0");
-        Check.due("NOT and the AMONG before are gone", numbers(x, 0, 1), "1 0 0 0");
+        Check.due("kinds", Rows.kinds(x, 0), "3 3 0 0");
+        Check.due("BETWEEN is gone", Rows.numbers(x, 0, 0), "5 0 0 0");
+        Check.due("NOT and the AMONG before are gone", Rows.numbers(x, 0, 1), "1 0 0 0");
     }
 
     private static void wishTakesTheReading() {
-        WishRoutes x = oneReader();
+        Routes x = Worlds.oneReader();
         x.reader(0);
         x.test(0, 1, 1, 2);
         x.among(1, 4);
@@ -106,16 +106,16 @@ final class WishesTest {
         x.among(1, 5);
         Check.due("wish(0)", x.wish(0), 1);
         Check.due("readers of wishes", x.look(0, 0) * 10 + x.look(1, 0), 10);
-        Check.due("kinds of the first", kinds(x, 0), "1 3 0 0");
-        Check.due("numbers of the first", numbers(x, 0, 1), "4 0 0 0");
-        Check.due("kinds of the second", kinds(x, 1), "0 3 2 0");
+        Check.due("kinds of the first", Rows.kinds(x, 0), "1 3 0 0");
+        Check.due("numbers of the first", Rows.numbers(x, 0, 1), "4 0 0 0");
+        Check.due("kinds of the second", Rows.kinds(x, 1), "0 3 2 0");
         Check.due("wish(2)", x.wish(2), -2);
         Check.due("wish(-1)", x.wish(-1), -2);
         Check.due("wishes", x.count(2), 2);
     }
 
     private static void wishesAreThreeHundredAtMost() {
-        WishRoutes x = oneReader();
+        Routes x = Worlds.oneReader();
         x.desk();
         x.link(0, 1);
         x.test(0, 1, 1, 2);
@@ -135,15 +135,15 @@ final class WishesTest {
     }
 
     private static void refusedWishKeepsTheReading() {
-        WishRoutes x = oneReader();
+        Routes x = Worlds.oneReader();
         x.test(3, 1, 5, 6);
         x.wish(9);
         x.wish(0);
-        Check.due("kinds", kinds(x, 0), "0 0 0 1");
+        Check.due("kinds", Rows.kinds(x, 0), "0 0 0 1");
     }
 
     private static void offEndsAWish() {
-        WishRoutes x = oneReader();
+        Routes x = Worlds.oneReader();
         x.desk();
         x.link(0, 1);
         x.test(0, 1, 1, 5);
@@ -168,63 +168,63 @@ final class WishesTest {
     }
 
     private static void coversByRanges() {
-        WishRoutes x = oneReader();
-        int wide = ranged(x, 1, 0, 10);
-        int narrow = ranged(x, 1, 3, 7);
-        int gap = ranged(x, 2, 8, 9);
-        int smallGap = ranged(x, 2, 9, 9);
-        int any = ranged(x, 0, 0, 0);
+        Routes x = Worlds.oneReader();
+        int wide = Worlds.ranged(x, 0, 1, 0, 10);
+        int narrow = Worlds.ranged(x, 0, 1, 3, 7);
+        int gap = Worlds.ranged(x, 0, 2, 8, 9);
+        int smallGap = Worlds.ranged(x, 0, 2, 9, 9);
+        int any = Worlds.ranged(x, 0, 0, 0, 0);
         coversOneWay(x, wide, narrow);
         coversOneWay(x, gap, narrow);
         coversOneWay(x, smallGap, gap);
         coversOneWay(x, any, wide);
         coversOneWay(x, any, smallGap);
         coversNeither(x, wide, gap);
-        coversNeither(x, narrow, ranged(x, 1, 7, 8));
-        coversOneWay(x, gap, ranged(x, 1, 10, MOST));
-        coversOneWay(x, gap, ranged(x, 1, LEAST, 7));
-        coversNeither(x, gap, ranged(x, 1, 9, 10));
-        coversNeither(x, gap, ranged(x, 1, 7, 10));
-        coversNeither(x, gap, ranged(x, 2, 9, 10));
-        coversSame(x, gap, ranged(x, 2, 8, 9));
+        coversNeither(x, narrow, Worlds.ranged(x, 0, 1, 7, 8));
+        coversOneWay(x, gap, Worlds.ranged(x, 0, 1, 10, MOST));
+        coversOneWay(x, gap, Worlds.ranged(x, 0, 1, LEAST, 7));
+        coversNeither(x, gap, Worlds.ranged(x, 0, 1, 9, 10));
+        coversNeither(x, gap, Worlds.ranged(x, 0, 1, 7, 10));
+        coversNeither(x, gap, Worlds.ranged(x, 0, 2, 9, 10));
+        coversSame(x, gap, Worlds.ranged(x, 0, 2, 8, 9));
         Check.due("covers itself", x.covers(gap, gap), 1);
     }
 
     private static void coversByNumbers() {
-        WishRoutes x = oneReader();
-        int four = numbered(x, 6, 3, 5, 4);
-        coversSame(x, four, ranged(x, 1, 3, 6));
-        coversOneWay(x, four, ranged(x, 1, 4, 5));
-        coversOneWay(x, four, numbered(x, 3, 6));
-        coversNeither(x, four, numbered(x, 3, 7));
-        coversOneWay(x, ranged(x, 1, 3, 7), four);
-        coversOneWay(x, ranged(x, 2, 7, 9), four);
-        coversNeither(x, ranged(x, 2, 6, 9), four);
-        coversNeither(x, four, ranged(x, 1, 2, 4));
-        int split = numbered(x, 1, 2, 4, 5);
-        coversNeither(x, split, ranged(x, 1, 2, 4));
-        coversOneWay(x, split, ranged(x, 1, 4, 5));
-        coversSame(x, numbered(x, 8), ranged(x, 1, 8, 8));
-        coversSame(x, numbered(x, 1, 2), numbered(x, 2, 1));
+        Routes x = Worlds.oneReader();
+        int four = Worlds.numbered(x, 0, 6, 3, 5, 4);
+        coversSame(x, four, Worlds.ranged(x, 0, 1, 3, 6));
+        coversOneWay(x, four, Worlds.ranged(x, 0, 1, 4, 5));
+        coversOneWay(x, four, Worlds.numbered(x, 0, 3, 6));
+        coversNeither(x, four, Worlds.numbered(x, 0, 3, 7));
+        coversOneWay(x, Worlds.ranged(x, 0, 1, 3, 7), four);
+        coversOneWay(x, Worlds.ranged(x, 0, 2, 7, 9), four);
+        coversNeither(x, Worlds.ranged(x, 0, 2, 6, 9), four);
+        coversNeither(x, four, Worlds.ranged(x, 0, 1, 2, 4));
+        int split = Worlds.numbered(x, 0, 1, 2, 4, 5);
+        coversNeither(x, split, Worlds.ranged(x, 0, 1, 2, 4));
+        coversOneWay(x, split, Worlds.ranged(x, 0, 1, 4, 5));
+        coversSame(x, Worlds.numbered(x, 0, 8), Worlds.ranged(x, 0, 1, 8, 8));
+        coversSame(x, Worlds.numbered(x, 0, 1, 2), Worlds.numbered(x, 0, 2, 1));
     }
 
     private static void coversAtTheEdgesOfInt() {
-        WishRoutes x = oneReader();
-        int any = ranged(x, 0, 0, 0);
-        coversSame(x, any, ranged(x, 1, LEAST, MOST));
-        coversSame(x, ranged(x, 2, LEAST, 0), ranged(x, 1, 1, MOST));
-        coversSame(x, ranged(x, 2, 0, MOST), ranged(x, 1, LEAST, -1));
-        coversSame(x, ranged(x, 2, LEAST, MOST - 2), numbered(x, MOST, MOST - 1));
-        coversSame(x, ranged(x, 2, LEAST + 2, MOST), numbered(x, LEAST + 1, LEAST));
-        coversSame(x, ranged(x, 2, LEAST + 1, MOST - 1), numbered(x, LEAST, MOST));
-        coversOneWay(x, any, ranged(x, 2, MOST, MOST));
-        coversOneWay(x, any, ranged(x, 1, LEAST, MOST - 1));
-        coversNeither(x, ranged(x, 2, LEAST, LEAST), numbered(x, LEAST, MOST));
+        Routes x = Worlds.oneReader();
+        int any = Worlds.ranged(x, 0, 0, 0, 0);
+        coversSame(x, any, Worlds.ranged(x, 0, 1, LEAST, MOST));
+        coversSame(x, Worlds.ranged(x, 0, 2, LEAST, 0), Worlds.ranged(x, 0, 1, 1, MOST));
+        coversSame(x, Worlds.ranged(x, 0, 2, 0, MOST), Worlds.ranged(x, 0, 1, LEAST, -1));
+        coversSame(x, Worlds.ranged(x, 0, 2, LEAST, MOST - 2), Worlds.numbered(x, 0, MOST, MOST - 1));
+        coversSame(x, Worlds.ranged(x, 0, 2, LEAST + 2, MOST), Worlds.numbered(x, 0, LEAST + 1, LEAST));
+        coversSame(x, Worlds.ranged(x, 0, 2, LEAST + 1, MOST - 1), Worlds.numbered(x, 0, LEAST, MOST));
+        coversOneWay(x, any, Worlds.ranged(x, 0, 2, MOST, MOST));
+        coversOneWay(x, any, Worlds.ranged(x, 0, 1, LEAST, MOST - 1));
+        coversNeither(x, Worlds.ranged(x, 0, 2, LEAST, LEAST), Worlds.numbered(x, 0, LEAST, MOST));
     }
 
     private static void coversAsksEachField() {
         for (int field = 0; field < 4; field++) {
-            WishRoutes x = oneReader();
+            Routes x = Worlds.oneReader();
             x.wish(0);
             x.test(field, 1, 1, 5);
             x.wish(0);
@@ -241,7 +241,7 @@ final class WishesTest {
     }
 
     private static void wishThatNothingFits() {
-        WishRoutes x = oneReader();
+        Routes x = Worlds.oneReader();
         x.test(0, 1, 1, 2);
         x.wish(0);
         x.test(3, 2, LEAST, MOST);
@@ -254,7 +254,7 @@ final class WishesTest {
         coversSame(x, 1, 2);
         Check.due("fits none", x.fits(1, 0, 0, 0, 0), 0);
         for (int field = 0; field < 4; field++) {
-            WishRoutes y = oneReader();
+            Routes y = Worlds.oneReader();
             y.test(field, 2, LEAST, MOST);
             y.wish(0);
             y.test((field + 1) % 4, 1, 1, 2);
@@ -268,7 +268,7 @@ final class WishesTest {
     }
 
     private static void coversAndFitsOfNoWish() {
-        WishRoutes x = oneReader();
+        Routes x = Worlds.oneReader();
         x.wish(0);
         Check.due("covers(0, 1)", x.covers(0, 1), -1);
         Check.due("covers(1, 0)", x.covers(1, 0), -1);
@@ -280,7 +280,7 @@ final class WishesTest {
     }
 
     private static void fitsAsksEachField() {
-        WishRoutes x = oneReader();
+        Routes x = Worlds.oneReader();
         x.test(0, 1, 2, 4);
         x.test(1, 2, 2, 4);
         x.among(2, 9);
@@ -300,7 +300,7 @@ final class WishesTest {
     }
 
     private static void lookTellsTheTests() {
-        WishRoutes x = oneReader();
+        Routes x = Worlds.oneReader();
         x.reader(0);
         x.test(0, 2, -4, 6);
         x.test(3, 1, LEAST, MOST);
@@ -308,11 +308,11 @@ final class WishesTest {
         x.wish(1);
         Check.due("reader", x.look(0, 0), 1);
         Check.due("alive", x.look(0, 1), 1);
-        Check.due("kinds", kinds(x, 0), "2 3 0 1");
-        Check.due("numbers of 0", numbers(x, 0, 0), "-4 6 0 0");
-        Check.due("numbers of 1", numbers(x, 0, 1), "3 0 0 0");
-        Check.due("numbers of 2", numbers(x, 0, 2), "0 0 0 0");
-        Check.due("numbers of 3", numbers(x, 0, 3), LEAST + " " + MOST + " 0 0");
+        Check.due("kinds", Rows.kinds(x, 0), "2 3 0 1");
+        Check.due("numbers of 0", Rows.numbers(x, 0, 0), "-4 6 0 0");
+        Check.due("numbers of 1", Rows.numbers(x, 0, 1), "3 0 0 0");
+        Check.due("numbers of 2", Rows.numbers(x, 0, 2), "0 0 0 0");
+        Check.due("numbers of 3", Rows.numbers(x, 0, 3), LEAST + " " + MOST + " 0 0");
         for (int what : new int[] {-1, 6, 7, 8, 9, 26, 27, LEAST, MOST}) {
             Check.due("look(0, " + what + ")", x.look(0, what), 0);
         }
@@ -320,51 +320,23 @@ final class WishesTest {
         Check.due("look(-1, 1)", x.look(-1, 1), 0);
     }
 
-    private static WishRoutes oneReader() {
-        WishRoutes x = new WishRoutes();
-        x.desk();
-        x.reader(0);
-        return x;
-    }
-
-    private static int ranged(WishRoutes x, int kind, int a, int b) {
-        x.test(0, kind, a, b);
-        return x.wish(0);
-    }
-
-    private static int numbered(WishRoutes x, int... numbers) {
-        for (int number : numbers) {
-            x.among(0, number);
-        }
-        return x.wish(0);
-    }
-
-    private static void coversOneWay(WishRoutes x, int wide, int narrow) {
+    private static void coversOneWay(Routes x, int wide, int narrow) {
         Check.due(pair(x, wide, narrow), x.covers(wide, narrow), 1);
         Check.due(pair(x, narrow, wide), x.covers(narrow, wide), 0);
     }
 
-    private static void coversNeither(WishRoutes x, int a, int b) {
+    private static void coversNeither(Routes x, int a, int b) {
         Check.due(pair(x, a, b), x.covers(a, b), 0);
         Check.due(pair(x, b, a), x.covers(b, a), 0);
     }
 
-    private static void coversSame(WishRoutes x, int a, int b) {
+    private static void coversSame(Routes x, int a, int b) {
         Check.due(pair(x, a, b), x.covers(a, b), 1);
         Check.due(pair(x, b, a), x.covers(b, a), 1);
     }
 
-    private static String pair(WishRoutes x, int a, int b) {
-        return "covers of field 0: " + x.look(a, 2) + " (" + numbers(x, a, 0) + "), "
-            + x.look(b, 2) + " (" + numbers(x, b, 0) + ")";
-    }
-
-    private static String kinds(WishRoutes x, int wish) {
-        return x.look(wish, 2) + " " + x.look(wish, 3) + " " + x.look(wish, 4) + " " + x.look(wish, 5);
-    }
-
-    private static String numbers(WishRoutes x, int wish, int field) {
-        int at = 10 + 4 * field;
-        return x.look(wish, at) + " " + x.look(wish, at + 1) + " " + x.look(wish, at + 2) + " " + x.look(wish, at + 3);
+    private static String pair(Routes x, int a, int b) {
+        return "covers of field 0: " + x.look(a, 2) + " (" + Rows.numbers(x, a, 0) + "), "
+            + x.look(b, 2) + " (" + Rows.numbers(x, b, 0) + ")";
     }
 }
