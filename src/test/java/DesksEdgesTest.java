@@ -283,7 +283,11 @@ final class DesksEdgesTest {
         Check.due("1 to 2 before", Rows.messages(x, 1, 2), "-2 2");
         Check.due("2 to 1 before", Rows.messages(x, 2, 1), "-2 3");
         Check.due("messages before", x.count(5), 8);
+        int came = x.count(7);
+        int delivered = x.count(9);
         x.cut(1, 2);
+        Check.due("what is lost did come behind messages", x.count(7), came);
+        Check.due("what is lost was not delivered", x.count(9), delivered);
         Check.due("1 to 2", Rows.messages(x, 1, 2), "");
         Check.due("2 to 1", Rows.messages(x, 2, 1), "");
         Check.due("0 to 1 stay", Rows.messages(x, 0, 1), "-2 0");
